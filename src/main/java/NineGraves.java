@@ -21,6 +21,7 @@ public final class NineGraves {
     private static final int MOST_SEEN = 12;
     private static final int MOST_PILGRIMS = 20;
     private static final int MOST_ROUND = 8;
+    private static final int FARTHEST = 2 * LAST_PLACE;
 
     private static final int TAPE = 300;
     private static final int MOST_CLAUSES = 24;
@@ -90,7 +91,7 @@ public final class NineGraves {
     private final Reader reader = new Reader();
     private final Law law = new Law(now);
     private final Sharing sharing = new Sharing(now, law);
-    private final Histories told = new Histories(now);
+    private final Histories past = new Histories(now);
     private final Rounds rounds = new Rounds(now);
 
     public NineGraves() {
@@ -241,23 +242,23 @@ public final class NineGraves {
     public int best(int what) {
         switch (what) {
             case 0:
-                return told.bones();
+                return past.bones();
             case 1:
-                return told.thefts();
+                return past.thefts();
             default:
                 return NONE;
         }
     }
 
     public long histories() {
-        return told.count();
+        return past.count();
     }
 
     public int led(int one) {
         if (one < 0 || one >= now.seen.count) {
             return OTHERS;
         }
-        return told.aheadOf(one);
+        return past.aheadOf(one);
     }
 
     public long chance(int n, int h, int c, int what) {
@@ -807,7 +808,6 @@ public final class NineGraves {
             clauseCount = 0;
             codeSize = 0;
             Arrays.fill(from, NONE);
-            Arrays.fill(to, NONE);
             Arrays.fill(many, 0);
             for (int i = 0; i <= MOST_CLAUSES && fault == 0 && tokens[at] != END; i++) {
                 readClause();
@@ -937,25 +937,22 @@ public final class NineGraves {
                 take(false, TOLD_TWICE);
             } else if (take(clauseCount < MOST_CLAUSES, TOO_MANY_CLAUSES)) {
                 clauses[clauseCount * 4] = word;
-                if (word <= UNLIKE) {
-                    readLaw(word);
+                int start = codeSize;
+                inUnlike = word == UNLIKE;
+                if (word == WORN) {
+                    readSum(0);
+                } else if (word <= UNLIKE) {
+                    readEither();
                 } else {
                     readNumbers(word, clauseCount * 4);
+                }
+                if (word <= UNLIKE) {
+                    from[word - WORN] = start;
+                    to[word - WORN] = codeSize;
                 }
                 clauseCount++;
                 take(tokens[at] == SEMICOLON, CANT_STAND);
             }
-        }
-
-        private void readLaw(int word) {
-            inUnlike = word == UNLIKE;
-            from[word - WORN] = codeSize;
-            if (word == WORN) {
-                readSum(0);
-            } else {
-                readEither();
-            }
-            to[word - WORN] = codeSize;
         }
 
         private void readNumbers(int word, int i) {
@@ -1405,8 +1402,10 @@ public final class NineGraves {
             changes = world.changes;
             sortByYear();
             int sets = 1 << Math.max(world.seen.count - 1, 0);
-            Arrays.fill(cost, 0, sets, 0L);
-            Arrays.fill(ways, 0, sets, 1L);
+            for (int ahead = 0; ahead < sets; ahead++) {
+                cost[ahead] = 0;
+                ways[ahead] = 1;
+            }
             for (int place = world.seen.count - 1; place >= 0; place--) {
                 link(place);
                 // Upwards, because a set is worked out from itself and from greater ones.
@@ -1532,7 +1531,7 @@ public final class NineGraves {
             if (rest == 0) {
                 return between[last * MOST_ROUND];
             }
-            int fewest = Integer.MAX_VALUE;
+            int fewest = MOST_ROUND * FARTHEST;
             for (int next = 1; next < count; next++) {
                 if ((rest & bitOf(next)) != 0) {
                     fewest = Math.min(fewest, milesBy(rest, last, next));

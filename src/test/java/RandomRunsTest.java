@@ -1,12 +1,12 @@
 import java.util.Random;
 
-/** Runs of 512 calls by chance (with fixed seeds), on the class and on the model, which must answer alike. */
+/** Runs of up to 512 calls by chance (with fixed seeds), on the class and on the model, which must answer alike. */
 public final class RandomRunsTest {
     private static final String[] CALLS = {
         "town", "bone", "prove", "feed", "end", "text", "fault", "by", "lend", "swap", "steal", "burn", "pass",
         "played", "undo", "of", "saints", "rules", "seen", "forget", "same", "best", "histories", "led", "chance",
         "round", "pilgrims", "image", "back", "about", "script"};
-    // How often each call comes, for runs of four sorts: all, laws and saints, what was seen, steps.
+    // How often each call comes, for long runs of four sorts: all, laws and saints, what was seen, steps.
     private static final int[][] OFTEN = {
         {4, 8, 4, 1, 1, 2, 2, 4, 8, 6, 6, 2, 4, 3, 8, 8, 8, 2, 5, 1, 4, 2, 1, 3, 2, 4, 3, 2, 2, 8, 6},
         {4, 12, 6, 0, 0, 0, 4, 8, 4, 3, 3, 1, 3, 4, 2, 16, 24, 0, 0, 0, 0, 0, 0, 0, 0, 0, 6, 1, 1, 3, 12},
@@ -26,11 +26,13 @@ public final class RandomRunsTest {
     }
 
     public static void main(String[] args) {
-        int runs = Integer.getInteger("runs", 1500);
+        int runs = Integer.getInteger("runs", 4000);
         long first = Long.getLong("seed", 0);
         int wrong = 0;
         for (long seed = first; seed < first + runs && wrong < 3; seed++) {
-            String fault = new RandomRunsTest(seed).run((int) (seed % 4));
+            int sort = (int) (seed % 8);
+            RandomRunsTest test = new RandomRunsTest(seed);
+            String fault = sort < 4 ? test.run(sort) : sort < 7 ? test.oneLaw() : test.oneSighting();
             if (fault != null) {
                 wrong++;
                 System.out.println("seed " + seed + ": " + fault);
@@ -48,7 +50,7 @@ public final class RandomRunsTest {
             sum += n;
         }
         for (int i = 0; i < 3; i++) {
-            if (random.nextInt(3) != 0 && !call("town", new int[] {below(30), below(30), 0, 0, 0})) {
+            if (random.nextInt(3) != 0 && !call("town", five(below(30), below(30), 0, 0))) {
                 return log.toString();
             }
         }
@@ -70,6 +72,57 @@ public final class RandomRunsTest {
         return null;
     }
 
+    /** A short run: BONES, one text, and all that it rules. */
+    private String oneLaw() {
+        boolean good = true;
+        int towns = 1 + below(4);
+        for (int i = 0; i < towns; i++) {
+            good = good && call("town", five(below(100), below(100), 0, 0));
+        }
+        int bones = below(15);
+        int kinds = 1 + below(6);
+        for (int i = 0; i < bones; i++) {
+            good = good && call("bone", five(below(kinds), 1 + below(below(2) == 0 ? 999 : 12), below(towns), 0));
+            good = good && (below(2) == 0 || call("prove", five(below(towns), below(i + 1), 0, 0)));
+        }
+        good = good && script(texts.any()) && call("by", five(0, 0, 0, 0));
+        for (int turn = 0; turn < 3 && good; turn++) {
+            int set = (1 << towns) - 1 & ~below(3);
+            for (int i = -1; i < bones && good; i++) {
+                good = call("saints", five(set, i, 0, 0)) && call("of", five(i, 6, 0, 0)) && call("of", five(i, 1, 0, 0));
+            }
+            good = good && call("pilgrims", five(below(10000), 99, 3, below(towns)))
+                    && call(turn == 0 ? "played" : "pass", five(turn * below(9), 0, 0, 0)) && call("about", five(5, 0, 0, 0));
+        }
+        return good ? null : log.toString();
+    }
+
+    /** A short run: twelve SEEN that are near to one another, and ROUNDS of as many TOWNS as can be. */
+    private String oneSighting() {
+        boolean good = true;
+        int wide = 5 + below(96);
+        int towns = 1 + below(10);
+        int years = 2 + below(12);
+        int weights = 1 + below(6);
+        for (int i = 0; i < towns; i++) {
+            good = good && call("town", five(below(wide), below(wide), 0, 0));
+        }
+        good = good && call("rules", five(below(10), 1 + below(20), 0, 0));
+        int seen = 6 + below(7);
+        int kinds = 1 + below(2);
+        for (int i = 0; i < seen; i++) {
+            good = good && call("seen", five(below(Math.min(3, towns)), below(kinds), 100 - below(weights), below(years)));
+        }
+        good = good && call("best", five(0, 0, 0, 0)) && call("best", five(1, 0, 0, 0)) && call("histories", five(0, 0, 0, 0));
+        for (int i = 0; i < seen; i++) {
+            good = good && call("led", five(i, 0, 0, 0)) && call("same", five(below(seen), below(seen), 0, 0));
+        }
+        for (int i = -1; i < 8; i++) {
+            good = good && call("round", five((1 << towns) - 1, i, 0, 0)) && call("round", five(below(1 << towns), i, 0, 0));
+        }
+        return good ? null : log.toString();
+    }
+
     private boolean script(String text) {
         boolean good = call("end", new int[5]);
         for (int i = 0; i < text.length() && good; i += 20) {
@@ -80,9 +133,9 @@ public final class RandomRunsTest {
             }
             good = call("feed", five);
         }
-        return good && call("end", new int[] {text.length(), 0, 0, 0, 0}) && call("text", new int[5])
-                && call("fault", new int[] {0, 0, 0, 0, 0}) && call("fault", new int[] {1, 0, 0, 0, 0})
-                && (below(2) == 0 || call("by", new int[] {about(3) - 1, 0, 0, 0, 0}));
+        return good && call("end", five(text.length(), 0, 0, 0)) && call("text", new int[5])
+                && call("fault", five(0, 0, 0, 0)) && call("fault", five(1, 0, 0, 0))
+                && (below(2) == 0 || call("by", five(about(3) - 1, 0, 0, 0)));
     }
 
     private int about(int what) {
@@ -101,7 +154,8 @@ public final class RandomRunsTest {
             case 1:
                 return hi + 1;
             case 2:
-                return new int[] {Integer.MIN_VALUE, Integer.MAX_VALUE, random.nextInt(), -2, 0, 1 << 31 >> below(32)}[below(6)];
+                int[] wild = {Integer.MIN_VALUE, Integer.MAX_VALUE, random.nextInt(), -2, 0, 1 << 31 >> below(32)};
+                return wild[below(wild.length)];
             case 3:
                 return lo;
             case 4:
@@ -138,7 +192,7 @@ public final class RandomRunsTest {
             case "prove":
                 return five(someTown(), someBone(), 0, 0);
             case "feed":
-                return new int[] {random.nextInt(), random.nextInt(), random.nextInt(), random.nextInt(), random.nextInt()};
+                return random.ints(5).toArray();
             case "end":
                 return five(near(0, about(9)), 0, 0, 0);
             case "fault":
