@@ -1223,6 +1223,8 @@ public final class NineGraves {
         private final int[] alike = new int[MOST_SHARED];
         private final int[] has = new int[MOST_SHARED];
         private final int[] room = new int[MOST_SHARED];
+        /** The last BONE ahead of one that could change places with it in any sharing; NONE if there is none. */
+        private final int[] twin = new int[MOST_SHARED];
         private final int[] given = new int[MOST_SHARED];
         private int count;
         private int set = NONE;
@@ -1243,6 +1245,7 @@ public final class NineGraves {
                 few = gather();
                 if (few) {
                     compare();
+                    findTwins();
                     settle();
                 }
             }
@@ -1293,6 +1296,18 @@ public final class NineGraves {
             }
         }
 
+        private void findTwins() {
+            for (int i = 0; i < count; i++) {
+                twin[i] = NONE;
+                for (int j = 0; j < i; j++) {
+                    int both = 1 << i | 1 << j;
+                    if (alike[i] == alike[j] && (clash[i] | both) == (clash[j] | both)) {
+                        twin[i] = j;
+                    }
+                }
+            }
+        }
+
         private boolean areUnlike(int one, int other) {
             return law.value(UNLIKE, one, other, 0) != 0 || law.value(UNLIKE, other, one, 0) != 0;
         }
@@ -1333,7 +1348,9 @@ public final class NineGraves {
             if (i >= count) {
                 return true;
             }
-            for (int saint = 0; saint <= used && saint < most; saint++) {
+            // The first sharing never gives a twin a lesser SAINT: the two could change places.
+            int least = twin[i] < 0 ? 0 : given[twin[i]];
+            for (int saint = least; saint <= used && saint < most; saint++) {
                 boolean fits = (has[saint] & clash[i]) == 0 && Integer.bitCount(has[saint] & alike[i]) < room[i];
                 if (fits) {
                     has[saint] |= 1 << i;

@@ -267,6 +267,27 @@ public final class PromisesTest {
         due("about(3)", x.about(3), 4);
         sums();
         asks();
+        manyTexts();
+    }
+
+    /** What was read before must not be in the way of what is read later. */
+    private static void manyTexts() {
+        NineGraves x = bones(0);
+        x.image();
+        String[] spoiled = {"worn 1" + times(60, "+1") + "+", "kind 0 many 3;kind 0", "unlike 1=1 or 2=3;holy 1=otown"};
+        for (int i = 0; i < 6; i++) {
+            for (String s : spoiled) {
+                due("a text with a fault", told(x, s), NONE);
+            }
+            x.back();
+            law(x, "kind 0 many 1;holy 1=2;worn 5" + times(130, "+1") + ";");
+            due("HOLY", x.of(0, 6), 0);
+            x.back();
+            law(x, "worn 1+sort" + times(50, "+1") + ";");
+            due("HOLY", x.of(0, 6), 1);
+            x.pass(1);
+            due("worn 51", x.of(0, 1), 49);
+        }
     }
 
     private static void sums() {
@@ -358,6 +379,14 @@ public final class PromisesTest {
         faulty("foo 1;", 1, 0);
         faulty("Worn 1;", 1, 0);
         faulty("wor n 1;", 1, 0);
+        faulty("wornz 1;", 1, 0);
+        faulty("wornA 1;", 1, 0);
+        faulty("wornZ 1;", 1, 0);
+        faulty("worn1;", 0, NONE);
+        for (char c : new char[] {'@', '[', '`', '{', '.', ':', 9, 13, 31, 33, 127, 128, 160, 255}) {
+            faulty("worn" + c + "1;", 1, 4);
+            faulty("worn 1" + c + ";", 1, 6);
+        }
         faulty(" ;", 1, 1);
         faulty("worn 1;;", 1, 7);
         faulty("worn 1", 1, 6);
@@ -1242,6 +1271,10 @@ public final class PromisesTest {
         due("3 is below 4", x.pilgrims(0, 2, 4, 0), 2);
         due("no draw at 2, where the third comes", x.pilgrims(0, 4, 4, 0), 3);
         due("none by 0", x.pilgrims(0, 99, 0, 0), 0);
+        NineGraves y = towns(2);
+        y.bone(0, 1, 0);
+        y.bone(0, 1, 1);
+        due("all by 6, wherever they come", y.pilgrims(1, 99, 6, 0) + y.pilgrims(1, 99, 6, 1), 99);
         x.steal(0, 1);
         x.steal(1, 1);
         due("no HOLY BONE there", x.pilgrims(0, 5, 6, 0), 0);

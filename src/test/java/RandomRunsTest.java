@@ -85,7 +85,8 @@ public final class RandomRunsTest {
             good = good && call("bone", five(below(kinds), 1 + below(below(2) == 0 ? 999 : 12), below(towns), 0));
             good = good && (below(2) == 0 || call("prove", five(below(towns), below(i + 1), 0, 0)));
         }
-        good = good && script(texts.any()) && call("by", five(0, 0, 0, 0));
+        String text = below(2) == 0 ? texts.any() : texts.clashing(kinds);
+        good = good && script(text) && call("by", five(0, 0, 0, 0));
         for (int turn = 0; turn < 3 && good; turn++) {
             int set = (1 << towns) - 1 & ~below(3);
             for (int i = -1; i < bones && good; i++) {

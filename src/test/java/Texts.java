@@ -38,6 +38,23 @@ final class Texts {
         return text.length() > 300 ? text.substring(0, 300) : text;
     }
 
+    /** A text by which many BONES can't be together. */
+    String clashing(int kinds) {
+        String[] laws = {
+            "weight-oweight>%d", "town#otown", "weight-oweight=%d", "weight/%d=oweight/%d and sort<osort",
+            "sort+1=osort or town+1=otown", "(weight-oweight)*(weight-oweight)<%d", "weight*oweight/7/%d*%d=weight*oweight/7",
+            "(weight+oweight)/%d*%d=weight+oweight", "not weight/%d*%d=weight and oweight/2*2=oweight",
+            "weight*oweight/3-weight*oweight/6*2=1"};
+        String law = laws[below(laws.length)].replace("%d", Integer.toString(1 + below(30)));
+        StringBuilder text = new StringBuilder("unlike ").append(law).append(';');
+        for (int k = 0; k < kinds; k++) {
+            if (below(3) != 0) {
+                text.append("kind ").append(k).append(" many ").append(1 + below(below(2) == 0 ? 3 : 9)).append(';');
+            }
+        }
+        return text.toString();
+    }
+
     private String spoiled(String text) {
         int how = below(5);
         if (how != 0 || text.isEmpty()) {
