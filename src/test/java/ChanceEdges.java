@@ -74,6 +74,9 @@ final class ChanceEdges {
                 round 3 -1 => 396
                 round 12 -1 => 396
                 """);
+        edges.at(27, "the fewest MILES;", "town 0 0\ntown 9 9\nround 3 -1 => 36\nround 3 1 => 1\nback\nround 3 -1 =! -1\ntown 5 5\ntown 5 6\nround 3 -1 => 2\n",
+                "town 0 0\nimage\ntown 9 9\ntown 1 1\nround 7 1 => 1\nround 7 -1 => 36\nback\ntown 99 0\ntown 0 99\nround 7 -1 => 396\n",
+                "town 0 0\ntown 9 9\nround 3 -1 => 36\ntown 1 1\nround 3 -1 => 36\nround 7 -1 => 36\nround 5 -1 => 4\nround 3 1 => 1\n");
         edges.at(27, "ROUND: MILES (i NONE); its i-th TOWN.", Scenes.towns(3) + """
                 round 6 -2 =! -1
                 round 6 -1 => 20

@@ -11,6 +11,7 @@ final class SaintEdges {
         unlike(edges);
         fewest(edges);
         twelve(edges);
+        changed(edges);
     }
 
     private static String bone(int kind, int weight, int owner) {
@@ -55,6 +56,15 @@ final class SaintEdges {
         edges.others(18, "-2 for others", Scenes.RICH, "saints 7 0", -2, "0 .. 7", "-1 .. 2");
         edges.others(18, "-2 for others", Scenes.towns(10) + Scenes.bones(12), "saints 1 0", -2, "0 .. 1023", "-1 .. 11");
         edges.others(18, "-2 for others", "", "saints 0 -1", -2, "0 .. 0", "-1 .. -1");
+    }
+
+    /** BONES of unlike KINDS, each of which can't be with the next one, nor the last one with the first. */
+    private static String ring(int n, int saints) {
+        StringBuilder s = new StringBuilder(Scenes.TOWNS);
+        for (int i = 0; i < n; i++) {
+            s.append(bone(i, 1 + i, 0));
+        }
+        return s + law("unlike oweight-weight=1 or weight=1 and oweight=" + n + ";") + "saints 1 -1 => " + saints + "\n";
     }
 
     private static void which(Edges edges) {
@@ -122,13 +132,32 @@ final class SaintEdges {
     private static void fewest(Edges edges) {
         String four = Scenes.TOWNS + bone(0, 1, 0) + bone(1, 2, 0) + bone(2, 3, 0) + bone(3, 4, 0);
         edges.at(18, "are shared out among as few SAINTS as can be", four + law("unlike weight=1 and oweight=3 or weight=3 and oweight=4 or weight=4 and oweight=2;")
-                + has(2, 0, 1, 1, 0));
+                + has(2, 0, 1, 1, 0), ring(5, 3) + has(3, 0, 1, 0, 1, 2), ring(7, 3) + has(3, 0, 1, 0, 1, 0, 1, 2), ring(11, 3) + "saints 1 -1 => 3\n", ring(12, 2) + "saints 1 -1 => 2\n",
+                four + law("unlike weight<3 and oweight>2;") + has(2, 0, 0, 1, 1), four + law("unlike weight=2 and oweight=4;") + has(2, 0, 0, 0, 1));
+        // In the second one two SAINTS do only if the first two BONES are not together, though they could be.
+        edges.at(18, "are shared out among as few SAINTS as can be", Scenes.TOWNS + Scenes.bones(4) + bone(1, 1, 0) + bone(1, 1, 0)
+                + law("kind 0 many 2;unlike sort=1 and oweight=100;") + has(3, 0, 0, 1, 1, 1, 2),
+                Scenes.TOWNS + Scenes.bones(3) + bone(1, 200, 0) + bone(1, 201, 0) + law("kind 0 many 2;unlike oweight=weight-100;") + has(2, 0, 1, 0, 1, 0));
         edges.at(18, "the least for the lowest BONE, then the next (a SAINT is numbered as he first comes).", four + law("unlike weight=1 and oweight=2;") + has(2, 0, 1, 0, 0),
                 four + law("unlike weight=2 and oweight>2;") + has(2, 0, 0, 1, 1), four + law("unlike weight=4;") + has(2, 0, 0, 0, 1),
                 four + law("unlike weight=1;") + has(2, 0, 1, 1, 1),
                 Scenes.TOWNS + bone(0, 1, 1) + bone(0, 2, 0) + bone(1, 3, 0) + bone(0, 4, 0) + has(2, -1, 0, 0, 1));
         edges.at(18, "which SAINT (0, 1, ..) each has", four + has(1, 0, 0, 0, 0), four + law("unlike 1=1;") + has(4, 0, 1, 2, 3));
         edges.at(18, "Told: how many;", "saints 0 -1 => 0\n", "town 0 0\n" + has(0), "town 0 0\n" + bone(0, 1, 0) + has(1, 0));
+    }
+
+    /** What was asked must be asked anew when anything has changed. */
+    private static void changed(Edges edges) {
+        String two = Scenes.TOWNS + Scenes.bones(2) + has(2, 0, 1);
+        edges.at(18, "BONES that are AT one of them", two + bone(0, 5, 0) + has(3, 0, 1, 2), two + "steal 1 2\n" + has(1, 0, -1) + "undo\n" + has(2, 0, 1),
+                two + "image\nsteal 1 2\n" + has(1, 0, -1) + "back\n" + has(2, 0, 1), two + "lend 0 1 3\n" + has(1, -1, 0) + "pass 3\n" + has(2, 0, 1),
+                two + "back\ntown 1 1\n" + has(0) + bone(0, 5, 0) + has(1, 0));
+        edges.at(18, "which SAINT (0, 1, ..) each has", Scenes.TOWNS + Scenes.bones(3) + law("kind 0 many 3;") + has(1, 0, 0, 0)
+                + "told kind 0 many 3;unlike weight=100 and oweight=101;\nby 1\n" + has(2, 0, 1, 0) + "by 0\n" + has(1, 0, 0, 0),
+                Scenes.TOWNS + Scenes.bones(3) + bone(1, 9, 0) + law("kind 0 many 2;") + has(2, 0, 0, 1, 0));
+        edges.at(18, "and HOLY (holy is so; without: all)", two + law("holy proofs>0;") + has(0, -1, -1) + "prove 1 1\n" + has(1, -1, 0) + "prove 1 0\n" + has(2, 0, 1) + "burn 1\n"
+                + has(0, -1, -1) + "undo\n" + has(2, 0, 1) + "by -1\n" + has(2, 0, 1), two + "told worn 1;holy weight=100;\nby 0\n" + has(1, 0, -1) + "pass 1\n" + has(1, -1, 0)
+                + "pass 1\n" + has(0, -1, -1) + "told holy 1=1;kind 0 many 2;\nby 1\n" + has(1, 0, 0));
     }
 
     private static void twelve(Edges edges) {

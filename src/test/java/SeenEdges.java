@@ -12,6 +12,7 @@ final class SeenEdges {
         best(edges);
         histories(edges);
         led(edges);
+        changed(edges);
     }
 
     private static void rules(Edges edges) {
@@ -56,9 +57,11 @@ final class SeenEdges {
                 seen 0 0 9 1 => 1
                 seen 0 0 8 5 => 2
                 best 0 => 1
+                best 1 => 0
                 led 0 => 2
                 led 1 => -1
                 led 2 => 1
+                histories => 1
                 """);
         edges.at(20, "a BONE of a KIND", Scenes.TOWNS + "seen 0 -1 9 1 =! -1\nseen 0 0 9 1 => 0\nseen 0 19 9 1 => 1\nseen 0 20 9 1 =! -1\n");
         edges.at(20, "of a WEIGHT (1 .. 999)", Scenes.TOWNS + "seen 0 0 0 1 =! -1\nseen 0 0 1 1 => 0\nseen 0 0 999 1 => 1\nseen 0 0 1000 1 =! -1\n");
@@ -214,6 +217,16 @@ final class SeenEdges {
                 Scenes.TOWNS + "seen 0 0 9 1\n11 * seen 0 0 9 2\nhistories => 11\nbest 0 => 11\n");
         edges.at(24, "and how many HISTORIES are so", Scenes.TOWNS + "2 * seen 0 0 9 1\n2 * seen 0 0 9 2\nseen 0 0 9 3\nhistories => 4\nbest 0 => 2\n",
                 Scenes.TOWNS + "2 * seen 0 0 9 1\nseen 0 0 9 2\nseen 0 0 9 3\nhistories => 4\nbest 0 => 2\n");
+    }
+
+    /** What was asked must be asked anew when anything has changed. */
+    private static void changed(Edges edges) {
+        String two = "town 0 0\ntown 20 0\nseen 0 0 9 1\nseen 1 0 8 2\nbest 0 => 2\nbest 1 => 0\nled 1 => -1\n";
+        edges.at(23, "BEST: the fewest BONES", two + "rules 1 20\nbest 0 => 1\nbest 1 => 1\nled 1 => 0\nrules 0 20\nbest 0 => 2\nled 1 => -1\n",
+                two + "seen 0 0 9 2\nbest 0 => 2\nled 2 => 0\nforget\nbest 0 => 0\nled 0 =! -2\n", two + "forget\nbest 0 => 0\nhistories => 1\n",
+                two + "rules 1 20\nimage\nbest 0 => 1\nrules 1 10\nbest 0 => 2\nback\nbest 0 => 1\nled 1 => 0\n",
+                two + "back\nbest 0 => 0\ntown 0 0\ntown 19 0\nseen 0 0 9 1\nseen 1 0 8 2\nbest 0 => 1\nbest 1 => 1\n",
+                two + "steal 0 0\npass 9\nundo\nbest 0 => 2\n");
     }
 
     private static void led(Edges edges) {

@@ -164,6 +164,15 @@ final class TextEdges {
                 pass 1
                 of 0 1 => 493
                 """);
+        String spoiled = "told worn 1" + "+1".repeat(140) + "!\n";
+        edges.at(7, "NONE: it has a FAULT;", Scenes.BONES + "told kind 1 many 9;kind 1\ntold holy 1=2;holy\ntold unlike 1=1;unlike\n" + spoiled.repeat(6) + """
+                told worn 4+sort*10; => 0
+                by 0
+                pass 1
+                of 0 1 => 466
+                of 0 6 => 1
+                saints 7 -1 => 2
+                """);
         edges.at(7, "or (the tape stays) there are 4.", FOUR + """
                 tape worn 9;
                 text =! -1
@@ -209,6 +218,13 @@ final class TextEdges {
                 "told worn " + "0".repeat(294) + "; => 0\n",
                 "told worn " + "9".repeat(295) + " => -1\nfault 0 => 2\nfault 1 => 5\n",
                 "told worn " + "0".repeat(293) + "1 => -1\nfault 0 => 1\nfault 1 => 299\n");
+        // The last byte of a full tape is looked at, and none behind it.
+        edges.at(7, "of up to 300 bytes.", full("x", 299), full("wor", 297), full("burn 0;w", 299), full("holy 1<", 300), full("holy 1>", 300),
+                full("holy 1<=", 300), full("burn", 300), full("worn 1", 300), full("worn weigh", 295), full("worn weight", 300));
+        // A cut tape has nothing of what was behind the cut.
+        edges.at(7, "The tape has its first n bytes alone: n.", "tape worn 12;\nend 6\ntext => -1\nfault 1 => 6\n", "tape worn 1;x\nend 7\ntext => 0\n",
+                "tape worn 1;worn\nend 10\ntext => -1\nfault 0 => 1\nfault 1 => 7\n", "tape holy 1<=\nend 7\ntext => -1\nfault 1 => 7\n",
+                Scenes.BONES + "tape pass 12;\nend 6\nfeed 991961120 538976288 538976288 538976288 538976288\ntext => 0\nplayed 0\nabout 2 => 1\n");
         edges.at(7, "{CLAUSE}, 24 at most", "told => 0\n", "told " + "pass 1;".repeat(23) + " => 0\n", "told " + "pass 1;".repeat(24)
                 + " => 0\nplayed 0 => -1\nabout 2 => 24\n", "told " + "pass 1;".repeat(25) + " => -1\nabout 3 => 0\n");
         StringBuilder kinds = new StringBuilder();
@@ -218,6 +234,11 @@ final class TextEdges {
         edges.at(7, "kind NUMBER many NUMBER ; (of a KIND once)", "told " + kinds + " => 0\n",
                 "told " + kinds.substring(0, kinds.length() - 10) + " 1 many 2; => -1\nfault 0 => 4\n",
                 "told kind 4 many 2;kind 5 many 2; => 0\n", "told kind 4 many 2;kind 4 many 2; => -1\n");
+    }
+
+    /** A tape of 300 bytes with this at its end has a FAULT. */
+    private static String full(String last, int place) {
+        return "told " + " ".repeat(300 - last.length()) + last + " => -1\nfault 0 => 1\nfault 1 => " + place + "\n";
     }
 
     private static void sums(Edges edges) {
@@ -253,6 +274,11 @@ final class TextEdges {
                 ask("3<=2", 0), ask("1>2", 0), ask("2>2", 0), ask("3>2", 1), ask("1>=2", 0), ask("2>=2", 1), ask("3>=2", 1), ask("1=2", 0),
                 ask("2=2", 1), ask("3=2", 0), ask("1#2", 1), ask("2#2", 0), ask("3#2", 1), ask("-1<0", 1), ask("1+1=4/2", 1),
                 ask("9999*9999=1000*1000", 1));
+        for (String right : new String[] {"1<2", "1<=2", "2<=2", "2>1", "2>=1", "2>=2", "2=2", "1#2", "2#1"}) {
+            edges.at(7, "ASK: not ASK, or SUM one of < <= > >= = # (unlike) SUM.", ask(right, 1), ask("not " + right, 0), ask("not not " + right, 1), ask(right + " and 1=1", 1),
+                    ask("1=1 and " + right, 1), ask(right + " and " + right, 1), ask(right + " and 1<2 and 1#2 and 1<=2 and 2>1 and 2>=1", 1), ask("1=2 or " + right, 1),
+                    ask("not " + right + " or 1=2", 0));
+        }
         edges.at(7, "ASK: not ASK", ask("not 1=2", 1), ask("not 1=1", 0), ask("not not 1=1", 1), ask("not not not 1=1", 0),
                 ask("not 1=1 or 1=1", 1), ask("not 1=2 and 1=2", 0), ask("1=1 and not 1=2", 1));
         edges.at(7, "EITHER: BOTH {or BOTH}. BOTH: ASK {and ASK}.", ask("1=1 or 1=2 and 1=2", 1), ask("1=2 and 1=2 or 1=1", 1),
