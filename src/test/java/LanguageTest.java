@@ -6,26 +6,24 @@ import java.lang.reflect.Modifier;
 import java.nio.file.Files;
 import java.nio.file.Path;
 import java.util.ArrayList;
-import java.util.Arrays;
 import java.util.List;
 import java.util.TreeSet;
 import java.util.regex.Matcher;
 import java.util.regex.Pattern;
 
-/** What can be seen of the document's face and of LANGUAGE.md from outside; the argument is the source's path. */
+/** What can be seen of the document's face and of LANGUAGE.md from outside; the arguments are the paths of the source and of the document. */
 public final class LanguageTest {
-    private static final String[] FACE = {
-        "int town 2", "int bone 3", "boolean prove 2", "int feed 5", "int end 1", "int text 0", "int fault 1",
-        "boolean by 1", "int lend 3", "boolean swap 2", "boolean steal 2", "int burn 1", "int pass 1", "int played 1",
-        "int undo 0", "int of 2", "int saints 2", "boolean rules 2", "int seen 4", "int forget 0", "boolean same 2",
-        "int best 1", "long histories 0", "int led 1", "long chance 4", "int round 2", "int pilgrims 4", "int image 0",
-        "int back 0", "int about 1"};
+    private static final int METHODS = 30;
+    private static final Pattern HEAD = Pattern.compile("(int|long|boolean) (\\w+)\\(((?:int \\w+(?:, )?)*)\\)");
     private static final String[] FORBIDDEN = {
         "\\bthrow\\b", "\\bthrows\\b", "\\btry\\b", "\\bcatch\\b", "\\bsynchronized\\b", "\\bassert\\b", "->", "::",
         "Exact\\b", "\\bprotected\\b", "\\bdouble\\b", "\\bfloat\\b", "static \\{", "\\bnative\\b", "\\bvolatile\\b",
         "\\bpackage\\b", "\\bObject\\b", "\\bInteger\\.[A-Z]", "\\bLong\\.[A-Z]", "while \\(true\\)", "for \\(;;\\)",
         "\\bSystem\\.(?!arraycopy\\b)", "\\bArrays\\.(?!copyOf\\b|copyOfRange\\b|fill\\b)", "[^\\x00-\\x7f]"};
 
+    /** The heads of the document's methods, and their names alone. */
+    private static final TreeSet<String> FACE = new TreeSet<>();
+    private static final TreeSet<String> NAMES = new TreeSet<>();
     private static int wrong;
 
     private LanguageTest() {
@@ -39,6 +37,7 @@ public final class LanguageTest {
     }
 
     public static void main(String[] args) throws IOException {
+        heads(Files.readString(Path.of(args.length > 1 ? args[1] : "../shared/DOC.md")));
         face();
         for (Class<?> c : NineGraves.class.getDeclaredClasses()) {
             inside(c);
@@ -49,6 +48,25 @@ public final class LanguageTest {
         if (wrong != 0) {
             System.exit(1);
         }
+    }
+
+    /** The face and the promises of the document have the same heads. */
+    private static void heads(String document) {
+        int from = document.indexOf("## The public face");
+        int to = document.indexOf("## Terms");
+        need(from >= 0 && to > from, "the document has a public face");
+        TreeSet<String> promised = new TreeSet<>();
+        Matcher m = HEAD.matcher(document);
+        while (m.find()) {
+            String head = m.group(1) + " " + m.group(2) + " " + (m.group(3).isEmpty() ? 0 : m.group(3).split(",").length);
+            if (m.start() > from && m.start() < to) {
+                FACE.add(head);
+                NAMES.add(m.group(2));
+            } else {
+                promised.add(head);
+            }
+        }
+        need(FACE.size() == METHODS && promised.equals(FACE), "the document's heads: " + FACE + ", " + promised);
     }
 
     private static void face() {
@@ -65,10 +83,11 @@ public final class LanguageTest {
                 }
             }
         }
-        need(open.equals(new TreeSet<>(Arrays.asList(FACE))), "the methods are the document's: " + open);
-        for (String f : FACE) {
-            need(!closed.contains(f.split(" ")[1]), "no private method bears a public one's name: " + f);
+        need(open.equals(FACE), "the methods are the document's: " + open);
+        for (String name : NAMES) {
+            need(!closed.contains(name), "no private method bears a public one's name: " + name);
         }
+        need(NineGraves.NONE == -1, "NONE is -1");
         for (Field f : NineGraves.class.getDeclaredFields()) {
             need(Modifier.isPrivate(f.getModifiers()) != f.getName().equals("NONE"), "NONE alone is open: " + f);
         }
@@ -89,7 +108,7 @@ public final class LanguageTest {
         need(fields <= 20, c + " has some twenty fields at most: " + fields);
         for (Method m : c.getDeclaredMethods()) {
             need(m.getParameterCount() <= 7, m + " takes at most seven");
-            need(Arrays.stream(FACE).noneMatch(f -> f.split(" ")[1].equals(m.getName())), m + " has a name of its own");
+            need(!NAMES.contains(m.getName()), m + " has a name of its own");
         }
     }
 
